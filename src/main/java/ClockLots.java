@@ -402,6 +402,10 @@ public final class ClockLots {
         return n < low || n > high;
     }
 
+    private static int quotient(int n, int divisor) {
+        return divisor > 0 ? n / divisor : 0;
+    }
+
     private static int cell(int b, int k) {
         return b * KINDS + k;
     }
@@ -477,14 +481,10 @@ public final class ClockLots {
             return sum;
         }
 
-        boolean isScarce(int k) {
-            return askedOf(k) > supply[k];
-        }
-
         int scarceKinds() {
             int scarce = 0;
             for (int k = 0; k < KINDS; k++) {
-                if (isScarce(k)) {
+                if (askedOf(k) > supply[k]) {
                     scarce++;
                 }
             }
@@ -695,7 +695,7 @@ public final class ClockLots {
                         break;
                     }
                     // Each lot of the last kind gains the same, so as many as there is room for gain most.
-                    int n2 = Math.min(most2, lotsFor(spare, points[2]));
+                    int n2 = Math.min(most2, quotient(spare, points[2]));
                     int gain = n0 * margin(b, 0) + n1 * margin(b, 1) + n2 * margin(b, 2);
                     if (gain > greatest) {
                         greatest = gain;
@@ -707,11 +707,7 @@ public final class ClockLots {
 
         /** Lots that gain nothing are never asked for, since of several demands the smallest ones count. */
         int mostWanted(int b, int k) {
-            return margin(b, k) > 0 ? mostLots(b, k) : 0;
-        }
-
-        static int lotsFor(int spare, int pointsOfLot) {
-            return pointsOfLot > 0 ? spare / pointsOfLot : 0;
+            return value[cell(b, k)] > price[k] ? mostLots(b, k) : 0;
         }
 
         void changeDemands(int b, int n0, int n1, int n2) {
@@ -722,11 +718,11 @@ public final class ClockLots {
 
         int closeRound() {
             for (int b = 0; b < bidders; b++) {
-                right[b] = Math.min(right[b], rightToKeep(b));
+                right[b] = Math.min(right[b], quotient(activity(b) * 100, keepPercent));
             }
             int rising = 0;
             for (int k = 0; k < KINDS; k++) {
-                if (isScarce(k)) {
+                if (askedOf(k) > supply[k]) {
                     rising++;
                     raisePrice(k);
                 }
@@ -734,10 +730,6 @@ public final class ClockLots {
             rounds++;
             over = rising == 0;
             return rising;
-        }
-
-        int rightToKeep(int b) {
-            return keepPercent <= 0 ? right[b] : activity(b) * 100 / keepPercent;
         }
 
         void raisePrice(int k) {

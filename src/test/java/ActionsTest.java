@@ -11,6 +11,8 @@ public final class ActionsTest {
         close();
         closeAtTheBound();
         add();
+        addWithinEachKind();
+        addForAll();
         drop();
         set();
         undo();
@@ -132,6 +134,8 @@ public final class ActionsTest {
         x.close();
         Check.dueThrow(x, "ask when it is over", Check.NOT_NOW, () -> x.ask(0, 0, 0));
         Check.dueThrow(x, "ask(0, 0, 10) when it is over", Check.BAD, () -> x.ask(0, 0, 10));
+        ClockLots z = Check.loaded("Ls091b999");
+        Check.due("ask(0, 0, 9)", z.ask(0, 0, 9), 9);
         ClockLots y = Check.loaded("Lb999b999q002q102c");
         Check.due("ask behind a round", y.ask(0, 0, 1), 1);
         Check.dueThrow(y, "ask above the kept right", Check.NOT_NOW, () -> y.ask(1, 1, 1));
@@ -220,6 +224,12 @@ public final class ActionsTest {
         Check.due("over", x.about(2), 1);
         Check.due("rounds", x.about(1), 3);
         Check.dueThrow(x, "close() when it is over", Check.NOT_NOW, x::close);
+        ClockLots y = Check.loaded("Ls092s195b999q009q012");
+        Check.due("activity", y.ask(0, 1, 1), 23);
+        y.set(0, 59);
+        y.close();
+        Check.due("a right rounded down", y.bidder(0, 0), 2300 / 59);
+        Check.due("it is over without rising prices", y.about(2), 1);
     }
 
     private static void closeAtTheBound() {
@@ -274,6 +284,51 @@ public final class ActionsTest {
         Check.due("its value", x.pack(0, 2, 3), 999999);
     }
 
+    /** What is too much for just one kind, by the cap and by the supply. */
+    private static void addWithinEachKind() {
+        ClockLots x = Check.loaded("Ls041s121s231b993q003q012q023c");
+        for (int k = 0; k < 3; k++) {
+            int supply = x.kind(k, 0);
+            int most = Math.min(3, supply);
+            int[] a = new int[3];
+            a[k] = most + 1;
+            Check.dueThrow(x, "add too many of the kind " + k, Check.NOT_NOW, () -> x.add(0, a[0], a[1], a[2], 999));
+            int[] c = new int[3];
+            c[k] = most;
+            Check.due("add as many as allowed of the kind " + k, x.add(0, c[0], c[1], c[2], 999), k + 1);
+        }
+        ClockLots y = new ClockLots();
+        y.price(0, 1);
+        y.join(9, 9);
+        y.ask(0, 0, 2);
+        y.ask(0, 1, 1);
+        y.ask(0, 2, 1);
+        y.close();
+        Check.due("add for 1", y.add(0, 1, 0, 0, 1), 1);
+        Check.due("add of the kinds 0 and 2", y.add(0, 1, 0, 1, 11), 2);
+        Check.due("add of the kinds 1 and 2", y.add(0, 0, 1, 1, 20), 3);
+    }
+
+    /** Six bidders with three packages each: every row is used. */
+    private static void addForAll() {
+        ClockLots x = Check.loaded("Ls091s191s291b999b999b999b999b999b999q001q101q201q301q401q501c");
+        for (int b = 0; b < 6; b++) {
+            for (int i = 1; i <= 3; i++) {
+                int[] a = new int[3];
+                a[(b + i) % 3] = 1;
+                Check.due("add", x.add(b, a[0], a[1], a[2], 100 * b + 10 * i), i);
+            }
+        }
+        for (int b = 0; b < 6; b++) {
+            for (int i = 1; i <= 3; i++) {
+                Check.due("value", x.pack(b, i, 3), 100 * b + 10 * i);
+                Check.due("lots", x.pack(b, i, (b + i) % 3), 1);
+                Check.due("no lots", x.pack(b, i, (b + i + 1) % 3) + x.pack(b, i, (b + i + 2) % 3), 0);
+            }
+        }
+        Check.due("all packages", x.about(4), 18);
+    }
+
     private static void drop() {
         ClockLots x = Check.loaded("Lb999b999q002q012q022w1c");
         x.add(0, 1, 0, 0, 11);
@@ -292,6 +347,13 @@ public final class ActionsTest {
         Check.due("value of the package 2", x.pack(0, 2, 3), 33);
         Check.due("lots of the package 2", x.pack(0, 2, 2), 1);
         Check.dueThrow(x, "drop(0, 3)", Check.NO_SUCH, () -> x.drop(0, 3));
+        x.undo();
+        Check.due("value behind undo", x.pack(0, 1, 3), 11);
+        Check.due("lots behind undo", x.pack(0, 1, 1), 0);
+        Check.due("lots behind undo", x.pack(0, 2, 1), 1);
+        Check.due("lots behind undo", x.pack(0, 3, 2), 1);
+        Check.due("value behind undo", x.pack(0, 3, 3), 33);
+        Check.due("drop(0, 1) again", x.drop(0, 1), 2);
         Check.due("drop(0, 2)", x.drop(0, 2), 1);
         Check.due("value of the package 1", x.pack(0, 1, 3), 22);
         Check.due("add behind a drop", x.add(0, 2, 0, 0, 44), 2);

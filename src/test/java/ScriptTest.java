@@ -4,6 +4,7 @@ public final class ScriptTest {
         commands();
         digits();
         changesAdd();
+        valueByTens();
         onACopy();
         wrongInputs();
         simulate();
@@ -76,6 +77,12 @@ public final class ScriptTest {
         Check.due("the first one is the highest", x.runScript(2, 9000090001L), 1);
         Check.due("the third one", x.runScript(3, 900009000099000L), 2);
         Check.due("all succeed", x.runScript(3, 900009000060100L), -1);
+        Check.due("drop twice", x.runScript(2, 6010060100L), 1);
+        ClockLots y = Check.loaded("Ls091b999");
+        one(y, 10090, true);
+        y.price(0, 999);
+        one(y, 70999, true);
+        one(y, 71999, false);
         Check.due("the first that fails", x.runScript(3, 900000000000000L), 1);
     }
 
@@ -99,6 +106,15 @@ public final class ScriptTest {
         ClockLots z = Check.loaded("Lb992b992q002");
         Check.due("a value of 10 gains nothing at 10", z.runScript(3, 410012100070011L), 2);
         Check.due("a value of 20 leads to a demand", z.runScript(3, 410022100030000L), -1);
+    }
+
+    /** Whether a value of 10 * 11 gains something tells what it is. */
+    private static void valueByTens() {
+        ClockLots x = Check.loaded("Lb022");
+        x.price(0, 109);
+        Check.due("110 gains something at 109", x.runScript(3, 400112000010110L), 2);
+        x.price(0, 110);
+        Check.due("110 gains nothing at 110", x.runScript(3, 400112000010110L), -1);
     }
 
     private static void onACopy() {
@@ -131,7 +147,7 @@ public final class ScriptTest {
 
     private static final String[] STARTS = {
         "L", "Lb992", "Lb992b993b994v00050v10060q011", "Lb992b993q002q102c", "Lb992q001q011c",
-        "Ls031s142b992b993b505b301b192b444v00050v10060v21077v32020v41050v52099"
+        "Ls091s191s291", "Ls031s142b992b993b505b301b192b444v00050v10060v21077v32020v41050v52099"
     };
 
     private static void simulate() {

@@ -163,6 +163,20 @@ public final class TextTest {
         Check.due("load() of " + text, x.load(), want);
     }
 
+    private static void loadWhenOver() {
+        ClockLots x = Check.loaded("Lb999v00500q001c");
+        x.add(0, 1, 0, 0, 99);
+        x.add(0, 1, 0, 0, 98);
+        Check.write(x, "L");
+        Check.due("load() when it is over", x.load(), 0);
+        Check.due("not over behind load", x.about(2), 0);
+        Check.due("no rounds behind load", x.about(1), 0);
+        Check.due("join behind load", x.join(9, 9), 0);
+        Check.due("no old package", x.bidder(0, 3), 0);
+        Check.due("no old demand", x.demand(0, 0), 0);
+        Check.due("no old value", x.value(0, 0, 1), 0);
+    }
+
     private static void loadForgets() {
         ClockLots x = new ClockLots();
         x.offer(0, 9, 9);
@@ -196,5 +210,6 @@ public final class TextTest {
         Check.due("no old package", x.bidder(0, 3), 0);
         Check.due("load again", x.load(), 0);
         Check.due("bidders behind load", x.about(0), 0);
+        loadWhenOver();
     }
 }
