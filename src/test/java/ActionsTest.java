@@ -358,6 +358,9 @@ public final class ActionsTest {
         Check.due("value of the package 1", x.pack(0, 1, 3), 22);
         Check.due("add behind a drop", x.add(0, 2, 0, 0, 44), 2);
         Check.due("drop(0, 1)", x.drop(0, 1), 1);
+        Check.due("lots of the package 1", x.pack(0, 1, 0), 2);
+        Check.due("lots of the package 1", x.pack(0, 1, 1), 0);
+        Check.due("lots of the package 0", x.pack(0, 0, 0), 2);
         Check.due("drop(0, 1)", x.drop(0, 1), 0);
         Check.dueThrow(x, "drop(0, 1) without packages", Check.NO_SUCH, () -> x.drop(0, 1));
     }

@@ -16,6 +16,9 @@ public final class ModelTest {
             int style = random.nextInt(6);
             for (int call = 0; call < 512; call++) {
                 step("run " + run + " call " + call + ": ", style);
+                if (random.nextInt(64) == 0) {
+                    all("run " + run + " call " + call + ": ");
+                }
             }
         }
         Check.end();
@@ -155,6 +158,28 @@ public final class ModelTest {
                 break;
             default:
                 same(at + "setting(" + i + ")", () -> x.setting(i), () -> m.setting(i));
+        }
+    }
+
+    private static void all(String at) {
+        for (int b = 0; b < m.about(0); b++) {
+            for (int i = 0; i < 5; i++) {
+                int one = b;
+                int what = i;
+                same(at + "bidder(" + b + ", " + i + ")", () -> x.bidder(one, what), () -> m.bidder(one, what));
+            }
+            for (int i = 0; i < 16; i++) {
+                int one = b;
+                int pack = i / 4;
+                int what = i % 4;
+                same(at + "pack(" + b + ", " + pack + ", " + what + ")",
+                        () -> x.pack(one, pack, what), () -> m.pack(one, pack, what));
+            }
+        }
+        for (int i = 0; i < 12; i++) {
+            int k = i / 4;
+            int what = i % 4;
+            same(at + "kind(" + k + ", " + what + ")", () -> x.kind(k, what), () -> m.kind(k, what));
         }
     }
 

@@ -8,6 +8,7 @@ public final class ScriptTest {
         onACopy();
         wrongInputs();
         simulate();
+        simulateCaps();
         Check.end();
     }
 
@@ -147,7 +148,7 @@ public final class ScriptTest {
 
     private static final String[] STARTS = {
         "L", "Lb992", "Lb992b993b994v00050v10060q011", "Lb992b993q002q102c", "Lb992q001q011c",
-        "Ls091s191s291", "Ls031s142b992b993b505b301b192b444v00050v10060v21077v32020v41050v52099"
+        "Ls031s142b992b993b505b301b192b444v00050v10060v21077v32020v41050v52099"
     };
 
     private static void simulate() {
@@ -159,6 +160,15 @@ public final class ScriptTest {
                             Check.loaded(start).simulate(seed, m), played(start, seed, m));
                 }
             }
+        }
+    }
+
+    /** Supplies that do not bind, so that the caps do. */
+    private static void simulateCaps() {
+        String start = "Ls091s191s291";
+        for (long seed = 1000; seed < 1400; seed++) {
+            Check.due("simulate(" + seed + ", 40) behind " + start,
+                    Check.loaded(start).simulate(seed, 40), played(start, seed, 40));
         }
     }
 
