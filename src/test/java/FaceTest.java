@@ -6,13 +6,14 @@ import java.util.TreeSet;
 
 /** The public face: what the document shows, and nothing else that is not private. */
 public final class FaceTest {
+    // Behind each method the exceptions that it declares: of an index (I), an argument (A), a state (S).
     private static final String[] FACE = {
-        "append(int)", "clearText()", "errorPosition()", "load()", "about(int)", "kind(int,int)", "bidder(int,int)",
-        "demand(int,int)", "pack(int,int,int)", "setting(int)", "offer(int,int,int)", "price(int,int)", "join(int,int)",
-        "value(int,int,int)", "ask(int,int,int)", "bid(int)", "close()", "add(int,int,int,int,int)", "drop(int,int)",
-        "set(int,int)", "undo()", "best()", "gets(int)", "pays(int)", "oneMore(int)", "leastMissed()",
-        "wouldAsk(int,int)", "roundsLeft()", "endPrice(int)", "runScript(int,long)", "simulate(long,int)", "save(int)",
-        "restore(int)"
+        "append(int) AS", "clearText()", "errorPosition()", "load() S", "about(int) A", "kind(int,int) IA",
+        "bidder(int,int) IA", "demand(int,int) I", "pack(int,int,int) IA", "setting(int) A", "offer(int,int,int) IAS",
+        "price(int,int) IAS", "join(int,int) AS", "value(int,int,int) IA", "ask(int,int,int) IAS", "bid(int) IS",
+        "close() S", "add(int,int,int,int,int) IAS", "drop(int,int) I", "set(int,int) A", "undo() S", "best()",
+        "gets(int) I", "pays(int) I", "oneMore(int) I", "leastMissed()", "wouldAsk(int,int) I", "roundsLeft()",
+        "endPrice(int) I", "runScript(int,long) A", "simulate(long,int) A", "save(int) I", "restore(int) IS"
     };
 
     public static void main(String[] args) {
@@ -25,8 +26,7 @@ public final class FaceTest {
         TreeSet<String> got = new TreeSet<>();
         for (Method method : ClockLots.class.getDeclaredMethods()) {
             if (!Modifier.isPrivate(method.getModifiers())) {
-                String whole = method.toString().replace("ClockLots.", "");
-                got.add(whole.replaceAll(" throws.*", ""));
+                got.add(method.toString().replace("ClockLots.", "").replaceAll(" throws.*", "") + declared(method));
             } else if (names.contains(method.getName())) {
                 got.add("private " + method.getName());
             }
@@ -34,6 +34,14 @@ public final class FaceTest {
         Check.dueSame("the methods", got, due);
         fieldsAndConstructors();
         Check.end();
+    }
+
+    private static String declared(Method method) {
+        StringBuilder letters = new StringBuilder();
+        for (Class<?> e : method.getExceptionTypes()) {
+            letters.append(e == Check.NO_SUCH ? "I" : e == Check.BAD ? "A" : e == Check.NOT_NOW ? "S" : "?");
+        }
+        return letters.length() == 0 ? "" : " " + letters;
     }
 
     private static void fieldsAndConstructors() {
